@@ -989,10 +989,10 @@ public final class WavePlan {
         }
 
         private void addLacks(int[] plan, int u, int w) {
-            if (land.barOfWants(u, w) == 0) {
-                return;
-            }
-            for (int c = 0; c < CHANNELS; c++) {
+            int reach = land.barOfWants(u, w) - 1;
+            int low = Math.max(0, plan[u] - land.gapOf(w) - reach);
+            int high = Math.min(CHANNELS - 1, plan[u] + land.gapOf(u) + reach);
+            for (int c = low; c <= high; c++) {
                 cost[c] += lackAt(u, plan[u], w, c);
             }
         }

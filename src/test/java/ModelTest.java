@@ -33,7 +33,9 @@ public final class ModelTest {
     }
 
     private void go() {
-        if (random.nextInt(3) > 0) {
+        if (run % 20 == 0) {
+            fill();
+        } else if (random.nextInt(3) > 0) {
             settle();
         }
         for (int i = 0; i < CALLS; i++) {
@@ -53,6 +55,21 @@ public final class ModelTest {
             mast();
         }
         own();
+    }
+
+    /** Begins with 12 masts, which have all 16 wants. */
+    private void fill() {
+        int[] wants = {1, 1, 1, 1, 1, 1, 1, 1, 1, 1, 1, 1};
+        for (int i = 0; i < 4; i++) {
+            int m = random.nextInt(12);
+            wants[wants[m] < 3 ? m : (m + 1) % 12]++;
+        }
+        row();
+        for (int w : wants) {
+            int k = random.nextInt(4), p = 64 * random.nextInt(field) + random.nextInt(field), o = random.nextInt(4);
+            due("mast", real.mast(k, p, o, w), model.mast(k, p, o, w), k, p, o, w);
+        }
+        due("least", real.least(), model.least());
     }
 
     private void due(String call, long got, long want, int... args) {
@@ -155,7 +172,7 @@ public final class ModelTest {
             case 29: due("span", real.span(), model.span()); break;
             case 30: { int n = random.nextInt(4) == 0 ? pick(1, 50) : 1; due("better", real.better(n), model.better(n), n); break; }
             case 31: {
-                int most = wantLimit == 16 && random.nextInt(4) > 0 ? pick(0, 1) : pick(0, 2);
+                int most = pick(0, 2);
                 due("fewest", real.fewest(most), model.fewest(most), most);
                 break;
             }

@@ -349,6 +349,14 @@ final class PlainModel {
         return stay[w] != -1;
     }
 
+    /** What is broken among the others stays so, whatever these two have: then no way is tried. */
+    private boolean cleanWithout(int u, int v) {
+        int[] p = plan.clone();
+        p[u] = -2;
+        p[v] = -2;
+        return harmOf(p) == 0;
+    }
+
     int fewest(int most) {
         if (!in(most, 0, 2)) return -1;
         if (harm() == 0) return 0;
@@ -364,7 +372,7 @@ final class PlainModel {
         }
         for (int u = 0; most >= 2 && u < ofWant.size(); u++) {
             for (int v = u + 1; v < ofWant.size(); v++) {
-                if (fixed(u) || fixed(v)) continue;
+                if (fixed(u) || fixed(v) || !cleanWithout(u, v)) continue;
                 for (int c = 0; c < 30; c++) {
                     for (int e = 0; e < 30; e++) {
                         int[] p = plan.clone();

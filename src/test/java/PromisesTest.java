@@ -714,6 +714,12 @@ public final class PromisesTest {
             due("31 count(" + what + ")", x.count(what), due[what]);
         }
         due("31 above", x.count(7), -1);
+        WavePlan full = line(12);
+        full.row(10000, 0, 1);
+        full.own(0, 10000);
+        due("31 twos of twelve", full.count(3), 66);
+        due("31 threes of twelve", full.count(4), 220);
+        due("31 parts of twelve", full.count(5), 1);
         due("31 below", x.count(-1), -1);
     }
 
