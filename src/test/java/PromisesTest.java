@@ -60,6 +60,8 @@ public final class PromisesTest {
         least();
         span();
         better();
+        betterAtTheTop();
+        sumsOfNarrowPairs();
         fewest();
         bound();
         crowd();
@@ -569,6 +571,79 @@ public final class PromisesTest {
         dueChannels("24 so far", z, 1, 2, 0, 0);
         due("24 the rest", z.better(50), 1);
         dueChannels("24 all", z, 1, 2, 3, 0);
+    }
+
+    private static void betterAtTheTop() {
+        WavePlan x = line(3);
+        x.own(0, 4);
+        x.list(0, 1 << 27);
+        x.list(1, 1 << 28);
+        x.list(2, 1 << 29 | 1);
+        setAll(x, 27, 28, 29);
+        due("24 a sum with 29", x.better(5), 1);
+        dueChannels("24 away from 29", x, 27, 28, 0);
+        WavePlan y = line(2);
+        y.row(1, 0, 2);
+        y.list(0, 1 << 28);
+        y.list(1, 1 << 29 | 1);
+        setAll(y, 28, 29);
+        due("24 a lack at 29", y.better(5), 1);
+        dueChannels("24 from the lack", y, 28, 0);
+        WavePlan z = new WavePlan();
+        z.mast(0, at(60, 60), 0, 1);
+        z.mast(1, 0, 0, 1);
+        z.mast(0, 0, 0, 1);
+        z.mast(0, 0, 0, 1);
+        z.own(0, 0);
+        z.gap(1, 1);
+        z.list(0, 1);
+        setAll(z, 5, 29, 28, 29);
+        // want 0 is on one that it may not have: 10; want 1 is, too, and its 30 is a sum with 28 and 29: 15
+        due("24 the harm before", z.harm(), 25);
+        due("24 a sum with 29 + D", z.better(1), 1);
+        dueChannels("24 the greater harm first", z, 5, 0, 28, 29);
+    }
+
+    /** Three masts at one place; the one of that number is a PAIR with D = 1, the others are plain. */
+    private static WavePlan narrowPair(int pair) {
+        WavePlan x = new WavePlan();
+        for (int m = 0; m < 3; m++) {
+            x.mast(m == pair ? 1 : 0, 0, 0, 1);
+        }
+        x.gap(pair, 1);
+        x.own(0, 0);
+        return x;
+    }
+
+    private static void sumsOfNarrowPairs() {
+        for (int pair = 0; pair < 3; pair++) {
+            String which = ", pair " + pair;
+            WavePlan x = narrowPair(pair);
+            setAll(x, 2, 6, 6);
+            x.set(pair == 0 ? 1 : 0, 2);
+            x.set(pair, 3);
+            due("18 its second channel is p" + which, x.broken(2), 1);
+            x.set(pair, 4);
+            due("18 its first channel is p" + which, x.broken(2), 1);
+            x.set(pair, 5);
+            due("18 neither is" + which, x.broken(2), 0);
+        }
+        for (int pair = 0; pair < 2; pair++) {
+            String which = ", pair " + pair;
+            WavePlan x = narrowPair(pair);
+            x.list(pair, 0b11);
+            x.list(1 - pair, 1 << 4);
+            x.list(2, 1 << 7 | 1 << 9);
+            // the pair has 0 and 1, the other one 4: 1 + 7 = 2 * 4, so the last one can't have 7
+            due("20 a pair's second channel" + which, x.plan(30), 1);
+            due("20 not 7" + which, x.channel(2), 9);
+            x.set(2, 7);
+            due("24 a pair's second channel" + which, x.better(9), 1);
+            due("24 not 7" + which, x.channel(2), 9);
+            x.set(2, 7);
+            due("25 a pair's second channel" + which, x.fewest(2), 1);
+            due("25 not 7" + which, x.channel(2), 9);
+        }
     }
 
     private static void fewest() {
