@@ -2,12 +2,18 @@
 final class Check {
     private int asked;
     private int wrong;
+    private String about = "";
+
+    /** What the checks from here on are about; it stands before each answer that is not as due. */
+    void about(String words) {
+        about = words.isEmpty() ? "" : "[" + words + "] ";
+    }
 
     void due(String call, long got, long want) {
         asked++;
         if (got != want) {
             wrong++;
-            System.out.println(call + " answered " + got + ", due is " + want);
+            System.out.println(about + call + " answered " + got + ", due is " + want);
         }
     }
 

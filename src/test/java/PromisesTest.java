@@ -1,39 +1,5 @@
 /** At least one test for each promise, by its number; the answers are worked out by hand from the document. */
-public final class PromisesTest {
-    private static final int ALL = (1 << 30) - 1;
-    private static final int MIN = Integer.MIN_VALUE;
-    private static final int MAX = Integer.MAX_VALUE;
-    private static final Check CHECK = new Check();
-
-    private static void due(String call, long got, long want) {
-        CHECK.due(call, got, want);
-    }
-
-    private static int at(int x, int y) {
-        return 64 * x + y;
-    }
-
-    /** Plain masts, one want each, side by side at x = 0, 1, 2, .. */
-    private static WavePlan line(int masts) {
-        WavePlan x = new WavePlan();
-        for (int i = 0; i < masts; i++) {
-            x.mast(0, at(i, 0), 0, 1);
-        }
-        return x;
-    }
-
-    private static void setAll(WavePlan x, int... channels) {
-        for (int w = 0; w < channels.length; w++) {
-            x.set(w, channels[w]);
-        }
-    }
-
-    private static void dueChannels(String when, WavePlan x, int... channels) {
-        for (int w = 0; w < channels.length; w++) {
-            due(when + " channel(" + w + ")", x.channel(w), channels[w]);
-        }
-    }
-
+public final class PromisesTest extends Offices {
     public static void main(String[] args) {
         newObject();
         mast();
@@ -857,17 +823,6 @@ public final class PromisesTest {
         due("34 longs", x.make(0, 4, 2), 0);
         due("34 no elements", x.make(1, 3, 0), 0);
         due("34 nothing of none", x.copy(1, 0, 1, 0, 0), 0);
-    }
-
-    private static int thrown(WavePlan x, int d, int i) {
-        try {
-            x.element(d, i);
-            return 0;
-        } catch (IllegalArgumentException e) {
-            return 1;
-        } catch (IllegalStateException e) {
-            return 2;
-        }
     }
 
     private static void element() {
