@@ -802,8 +802,6 @@ public final class WavePlan {
 
     /** What is BROKEN in a plan: an array with a channel, or NONE, for each want. */
     private static final class Judge {
-        private static final int TOP_CHANNEL = CHANNELS - 1 + MOST_GAP;
-
         private final Land land;
         private final int[] cost = new int[CHANNELS];
 
@@ -965,7 +963,7 @@ public final class WavePlan {
         }
 
         private static long bitOf(int channel) {
-            return channel >= 0 && channel <= TOP_CHANNEL ? 1L << channel : 0;
+            return within(channel, 0, CHANNELS - 1) ? 1L << channel : 0;
         }
 
         /** For each channel the HARM that a want would have its share in, the others being as they are. */

@@ -132,6 +132,8 @@ public final class EdgesTest extends Offices {
         due("of all eleven", x.move(0, at(30, 30)), 11);
         due("of all eleven, by one", x.move(0, at(31, 30)), 11);
         due("own is none of them", line(1).move(0, at(9, 9)), 0);
+        due("of the last, to all eleven", x.move(11, at(60, 60)), 11);
+        due("of one in the midst, to ten", x.move(5, at(0, 0)), 10);
     }
 
     private static void moveRefused() {
@@ -543,6 +545,7 @@ public final class EdgesTest extends Offices {
     private static void sayBroken() {
         promise("18: broken").says("what = 0 how many two WANTS (1), 1 their lacks together, 2 p, q, r (2), 3 WANTS (3).",
                         EdgesTest::brokenOfNone)
+                .says("Of what is BROKEN", EdgesTest::brokenOfAll)
                 .says("-1 for others.", EdgesTest::brokenOthers);
         promise("19: pair").says("The i-th two WANTS of (1), from 0, by the lesser one, then the other", EdgesTest::pairsInOrder)
                 .says("what = 0 the lesser, 1 the other, 2 the lack.", EdgesTest::pairOfLacks)
@@ -574,6 +577,22 @@ public final class EdgesTest extends Offices {
         for (int what : new int[] {-1, -2, 4, 5, MIN, MAX}) {
             due("broken(" + what + ")", x.broken(what), -1);
         }
+    }
+
+    private static void brokenOfAll() {
+        WavePlan x = sixteenWants();
+        x.row(0, 0, 1);
+        x.own(3, 0);
+        for (int w = 0; w < 16; w++) {
+            x.set(w, 9);
+        }
+        for (int m = 0; m < 12; m++) {
+            x.list(m, 1);
+        }
+        due("120 twos", x.broken(0), 120);
+        due("116 lacks of 1, 4 of 3", x.broken(1), 128);
+        due("504 threes, each of whom is p", x.broken(2), 1512);
+        due("16 that may not", x.broken(3), 16);
     }
 
     private static void pairsInOrder() {
@@ -823,6 +842,8 @@ public final class EdgesTest extends Offices {
         promise("25: fewest").says("The least number of WANTS (at most most, 0 .. 2) whose channels would have to be others",
                         EdgesTest::fewestNumber)
                 .says("(none of those that are told to stay), ones that they MAY have, that HARM is 0", EdgesTest::fewestMay)
+                .says("ones that they MAY have, that HARM is 0", EdgesTest::fewestOfPairs)
+                .says("The least number of WANTS", EdgesTest::fewestOfAll)
                 .says("the others keep theirs (or none)", EdgesTest::fewestKeep)
                 .says("-2: not by so many.", EdgesTest::fewestTooMany)
                 .says("of these the WANTS that are least (the first one, then the second), then the least channels.",
@@ -932,6 +953,46 @@ public final class EdgesTest extends Offices {
         }
         x.set(5, -1);
         due("two have to be", x.fewest(2), 2);
+    }
+
+    /** All 16 wants: the last ones are in it, too. */
+    private static void fewestOfAll() {
+        WavePlan x = sixteenWants();
+        x.row(0, 0, 1);
+        x.own(1, -1);
+        for (int w = 0; w < 16; w++) {
+            x.set(w, w);
+        }
+        due("no harm", x.fewest(2), 0);
+        x.set(15, 14);
+        due("14 or 15", x.fewest(1), 1);
+        due("14 goes", x.channel(14), 15);
+        setAll(x, 0, 1, 2, 3, 4, 5, 6, 7, 8, 9, 10, 11, 12, 12, 14, 14);
+        x.list(9, only(12));
+        x.list(10, only(14));
+        // wants 13 and 14 are those of masts 9 and 10
+        due("two twos", x.fewest(2), 2);
+        due("12 goes", x.channel(12), 13);
+        due("15 goes, as 14 can't", x.channel(15), 15);
+        for (int m = 0; m < 12; m++) {
+            x.list(m, m < 8 ? ALL : 0);
+        }
+        due("four that may not", x.fewest(2), -2);
+    }
+
+    private static void fewestOfPairs() {
+        WavePlan x = heap(PAIR, PLAIN);
+        x.row(0, 0, 1);
+        x.list(0, only(0, 1, 2, 5, 6, 7));
+        x.list(1, only(5));
+        setAll(x, 0, 5);
+        due("c + D of a pair", x.fewest(1), 1);
+        dueChannels("the next one", x, 1, 5);
+        x.list(0, only(0, 5));
+        x.list(1, only(0, 3, 5));
+        setAll(x, 0, 5);
+        due("beside a pair", x.fewest(1), 1);
+        dueChannels("not 0 either", x, 0, 3);
     }
 
     private static void fewestLeast() {
@@ -1069,6 +1130,13 @@ public final class EdgesTest extends Offices {
         less.row(0, 0, 1);
         // all three: 2; 0 and 1: 4
         due("more masts, a lesser bound", less.crowd(), 0b011);
+        WavePlan over = new WavePlan();
+        for (int wants : new int[] {3, 1, 3, 2}) {
+            over.mast(0, 0, 0, wants);
+        }
+        over.row(0, 0, 4);
+        // own 2 within each, 4 between them; 0 1 3: 14, 1 2 3: 14, 0 2: 12, 0 1 2 has seven wants
+        due("over one that would be too many", over.crowd(), 0b1011);
     }
 
     private static void crowdLeastNumber() {
@@ -1097,6 +1165,12 @@ public final class EdgesTest extends Offices {
         last.move(11, at(30, 30));
         last.row(0, 0, 2);
         due("the last two", last.crowd(), 0b110000000000);
+        WavePlan between = new WavePlan();
+        for (int place : new int[] {0, 30, 1, 31}) {
+            between.mast(0, at(place, 0), 0, 1);
+        }
+        between.row(1, 0, 4);
+        due("0 and 2, over one that has no bar", between.crowd(), 0b0101);
     }
 
     private static void crowdOfNone() {

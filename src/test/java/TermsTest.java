@@ -514,6 +514,25 @@ public final class TermsTest extends Offices {
         due("D as it is now", x.harm(), 1);
         x.set(1, -1);
         due("both in the span", x.span(), 5);
+        narrowest(heap(PAIR, PLAIN), 0);
+        narrowest(heap(PLAIN, PAIR), 1);
+    }
+
+    /** D is 1: c + D is the very next one. */
+    private static void narrowest(WavePlan x, int pair) {
+        x.row(0, 0, 1);
+        x.gap(pair, 1);
+        x.set(pair, 3);
+        int[] harm = {0, 1, 1, 0};
+        for (int c = 2; c <= 5; c++) {
+            x.set(1 - pair, c);
+            due("D 1, pair " + pair + ", the other on " + c, x.harm(), harm[c - 2]);
+        }
+        x.list(pair, only(0, 1));
+        x.list(1 - pair, only(0, 1, 2));
+        due("both planned", x.plan(30), 1);
+        due("the pair on 0 1", x.channel(pair), 0);
+        due("the other on 2", x.channel(1 - pair), 2);
     }
 
     private static void sayBroken(Sentences terms) {
@@ -718,6 +737,7 @@ public final class TermsTest extends Offices {
                 .says("it is taken, if it MAY be", TermsTest::takenIfItMayBe)
                 .says("of a PAIR c + D is below n, too", TermsTest::pairBelowN)
                 .says("HARM of the WANTS so far (others have none) is 0", TermsTest::wantsSoFar)
+                .says("HARM of the WANTS so far (others have none) is 0", TermsTest::pairsInSums)
                 .says("of a MAST's second and third WANT, it is above the one before", TermsTest::aboveTheOneBefore)
                 .says("if there is no channel (more) back to the WANT before, its next channel.", TermsTest::back)
                 .says("4000 TRIES at most: where one more would be made it is SPENT.", TermsTest::spent);
@@ -782,6 +802,45 @@ public final class TermsTest extends Offices {
         due("a sum is harm only with the third", sums.plan(3), 1);
         dueChannels("so the third goes on", sums, 0, 0, 1);
         due("1 and 1 and 2 tries", sums.tries(), 4);
+        sums.list(0, only(2));
+        sums.list(1, only(1));
+        due("0 would be a sum: 0 + 2 = 2 * 1", sums.plan(3), 1);
+        dueChannels("not 0", sums, 2, 1, 1);
+        sums.list(0, only(1));
+        sums.list(1, only(4));
+        due("0 is none", sums.plan(30), 1);
+        dueChannels("0", sums, 1, 4, 0);
+        sums.list(0, only(27));
+        sums.list(1, only(28));
+        sums.list(2, only(26, 29));
+        due("26 27 28 and 27 28 29 are sums", sums.plan(30), 0);
+        WavePlan pair = heap(PLAIN, PAIR, PLAIN);
+        pair.row(0, 0, 1);
+        pair.list(0, only(5));
+        pair.list(2, only(1, 6, 7));
+        due("a pair's c + D, before and behind others", pair.plan(30), 1);
+        dueChannels("not 0 5; not 1, not 6", pair, 5, 1, 7);
+        due("6 and 2 and 8 tries", pair.tries(), 16);
+    }
+
+    private static void pairsInSums() {
+        WavePlan last = heap(PLAIN, PLAIN, PAIR);
+        last.own(0, 0);
+        last.list(0, only(0));
+        last.list(1, only(10));
+        due("0 + 10 = 2 * 5", last.plan(30), 1);
+        dueChannels("not 0 5", last, 0, 10, 1);
+        for (int p = 0; p < 2; p++) {
+            WavePlan x = heap(p == 0 ? PAIR : PLAIN, p == 0 ? PLAIN : PAIR, PLAIN);
+            x.own(0, 0);
+            x.list(p, only(0, 5));
+            x.list(1 - p, only(10));
+            due("10 + 0 = 2 * 5", x.plan(30), 1);
+            due("not 0", x.channel(2), 1);
+            x.list(2, only(20, 15, 29));
+            due("0 + 20 = 2 * 10, 5 + 15 = 2 * 10", x.plan(30), 1);
+            due("neither", x.channel(2), 29);
+        }
     }
 
     private static void aboveTheOneBefore() {
@@ -874,6 +933,11 @@ public final class TermsTest extends Offices {
                         TermsTest::waysToBetter)
                 .says("that by which HARM becomes least; of these the least WANT, of these the least channel",
                         TermsTest::leastHarm)
+                .says("that by which HARM becomes least", TermsTest::harmOfSums)
+                .says("that by which HARM becomes least", TermsTest::sumAgainstLack)
+                .says("that by which HARM becomes least", TermsTest::harmAtTheEnds)
+                .says("that by which HARM becomes least", TermsTest::harmOfPairs)
+                .says("of these the least WANT", TermsTest::harmOfOtherKinds)
                 .says("if it is less than HARM it is done.", TermsTest::lessThanHarm);
     }
 
@@ -895,6 +959,14 @@ public final class TermsTest extends Offices {
         due("to one that it may have", x.channel(1), 9);
         x.list(1, 0);
         due("there is none that it may have", x.better(1), 0);
+        WavePlan none = heap(PLAIN, PLAIN);
+        none.row(0, 0, 4);
+        none.list(0, 0);
+        none.list(1, 0);
+        setAll(none, 3, 3);
+        due("two on channels that they may not have, with a lack", none.harm(), 24);
+        due("another one that it may not have would have no lack", none.better(1), 0);
+        dueChannels("stays", none, 3, 3);
     }
 
     private static void leastHarm() {
@@ -919,6 +991,179 @@ public final class TermsTest extends Offices {
         setAll(same, 0, 0);
         due("at the lower end", same.better(1), 1);
         dueChannels("the least channel is 2", same, 2, 0);
+    }
+
+    /** One of three masts, which are all in, may have some channels, the others have 4 and 8 alone. */
+    private static void harmOfSums() {
+        for (int w = 0; w < 3; w++) {
+            for (int from : new int[] {0, 6, 12}) {
+                WavePlan x = heap(PLAIN, PLAIN, PLAIN);
+                x.own(0, 0);
+                x.list((w + 1) % 3, only(4));
+                x.list((w + 2) % 3, only(8));
+                x.list(w, only(0, 6, 7, 12));
+                x.set((w + 1) % 3, 4);
+                x.set((w + 2) % 3, 8);
+                x.set(w, from);
+                due("0 4 8, 4 6 8 and 4 8 12 are sums: want " + w + " on " + from, x.better(9), 1);
+                due("4 7 8 is none", x.channel(w), 7);
+            }
+        }
+        WavePlan far = heap(PLAIN, PLAIN, PLAIN);
+        far.own(0, 0);
+        far.list(0, only(27));
+        far.list(1, only(28));
+        far.list(2, only(26, 29, 0));
+        setAll(far, 27, 28, 29);
+        due("27 28 29 is a sum, 26 27 28 is, too", far.better(9), 1);
+        dueChannels("not 26", far, 27, 28, 0);
+        WavePlan odd = heap(PLAIN, PLAIN, PLAIN);
+        odd.own(0, 0);
+        odd.list(0, only(4));
+        odd.list(1, only(9));
+        odd.list(2, only(3, 6, 8));
+        setAll(odd, 4, 9, 6);
+        due("4 + 9 is no 2 p", odd.better(9), 0);
+        odd.list(1, only(10));
+        odd.list(2, only(3, 7, 8));
+        setAll(odd, 4, 10, 7);
+        due("4 + 10 is 2 * 7", odd.better(9), 1);
+        dueChannels("3 isn't one", odd, 4, 10, 3);
+    }
+
+    /** A lack of 6 is more than a sum, and less than two. */
+    private static void sumAgainstLack() {
+        WavePlan x = new WavePlan();
+        for (int i = 0; i < 3; i++) {
+            x.mast(PLAIN, 0, 0, 1);
+        }
+        x.mast(PLAIN, at(60, 60), 0, 2);
+        x.own(6, 0);
+        setAll(x, 4, 5, 6, 9, 9);
+        due("harm", x.harm(), 5 + 6);
+        due("the lack first", x.better(1), 1);
+        dueChannels("so the want of the lack", x, 4, 5, 6, 0, 9);
+        due("then the sum", x.better(1), 1);
+        dueChannels("the least want", x, 0, 5, 6, 0, 9);
+        WavePlan all = new WavePlan();
+        all.mast(PLAIN, at(60, 60), 0, 2);
+        for (int i = 0; i < 3; i++) {
+            all.mast(PLAIN, 0, 0, 1);
+        }
+        all.own(6, 0);
+        setAll(all, 9, 9, 4, 4, 4);
+        due("three sums before the lack", all.better(1), 1);
+        dueChannels("all three of one want", all, 9, 9, 0, 4, 4);
+    }
+
+    private static void harmAtTheEnds() {
+        WavePlan high = heap(PLAIN, PLAIN);
+        high.row(0, 0, 2);
+        high.list(0, only(28));
+        high.list(1, only(29, 5));
+        setAll(high, 28, 29);
+        due("a lack at 29", high.better(9), 1);
+        dueChannels("away from it", high, 28, 5);
+        WavePlan low = heap(PLAIN, PLAIN);
+        low.row(0, 0, 2);
+        low.list(0, only(1));
+        low.list(1, only(0, 5));
+        setAll(low, 1, 0);
+        due("a lack at 0", low.better(9), 1);
+        dueChannels("away from it, too", low, 1, 5);
+        WavePlan narrow = heap(PAIR, PLAIN, PLAIN);
+        narrow.own(0, 0);
+        narrow.gap(0, 1);
+        narrow.list(0, only(0, 1, 4, 5));
+        narrow.list(1, only(2));
+        narrow.list(2, only(3));
+        setAll(narrow, 0, 2, 3);
+        // 1 2 3; 2 3 4
+        due("a sum of 0 + 1", narrow.better(9), 0);
+        narrow.list(0, only(0, 1, 5, 6));
+        due("a sum of 0 + 1 that can be left", narrow.better(9), 1);
+        dueChannels("5 6 has none", narrow, 5, 2, 3);
+        // 31 would be in a sum with 20 and 9, -2 with 4 and 10, and 0 with 4 and 8
+        for (int[] others : new int[][] {{20, 9}, {4, 10}, {4, 8}, {0, 29}, {29, 0}}) {
+            WavePlan x = heap(PAIR, PLAIN, PLAIN);
+            x.own(0, 0);
+            x.gap(0, 1);
+            setAll(x, 24, others[0], others[1]);
+            due("sums beyond the channels are none", x.better(9), 0);
+        }
+    }
+
+    private static void harmOfPairs() {
+        int[][] lacking = {{2, 1}, {8, 9}, {12, 11}, {18, 19}};
+        for (int[] steps : lacking) {
+            // a pair of D 10, one on 15: those lack whose c or c + D is 12 .. 18
+            WavePlan x = heap(PAIR, PLAIN);
+            x.row(0, 0, 4);
+            x.gap(0, 10);
+            x.list(0, only(steps[0], steps[1], steps[0] + 10, steps[1] + 10));
+            x.list(1, only(15));
+            setAll(x, steps[0], 15);
+            due("a pair goes from " + steps[0], x.better(9), 1);
+            due("a pair went", x.channel(0), steps[1]);
+            // one beside a pair on 5 and 15: 2 .. 8 and 12 .. 18 lack
+            WavePlan y = heap(PAIR, PLAIN);
+            y.row(0, 0, 4);
+            y.gap(0, 10);
+            y.list(0, only(5, 15));
+            y.list(1, only(steps[0], steps[1]));
+            setAll(y, 5, steps[0]);
+            due("one beside a pair goes from " + steps[0], y.better(9), 1);
+            due("one beside a pair went", y.channel(1), steps[1]);
+        }
+        for (int from : new int[] {1, 7}) {
+            WavePlan x = heap(PLAIN, PAIR, PLAIN);
+            x.own(0, 0);
+            x.list(0, only(4));
+            x.list(2, only(8));
+            x.list(1, only(1, 2, 6, 7, 12));
+            setAll(x, 4, from, 8);
+            due("6 or 12 as c + D is a sum, from " + from, x.better(9), 1);
+            dueChannels("2 7 is none", x, 4, 2, 8);
+        }
+        for (int from : new int[] {0, 2, 5, 6, 12}) {
+            WavePlan x = heap(PLAIN, PAIR, PLAIN);
+            x.own(0, 0);
+            x.list(0, only(0, 2, 5, 6, 7, 12));
+            x.list(1, only(3, 8));
+            x.list(2, only(4));
+            setAll(x, from, 3, 4);
+            // with 3 and 4: 2, 5; with 8 and 4: 0, 6, 12
+            due("beside a pair, from " + from, x.better(9), 1);
+            dueChannels("7 is none", x, 7, 3, 4);
+            WavePlan y = heap(PLAIN, PLAIN, PAIR);
+            y.own(0, 0);
+            y.list(0, only(0, 2, 5, 6, 7, 12));
+            y.list(1, only(4));
+            y.list(2, only(3, 8));
+            setAll(y, from, 4, 3);
+            due("before a pair, from " + from, y.better(9), 1);
+            dueChannels("7 is none, too", y, 7, 4, 3);
+        }
+    }
+
+    /** A channel that may not be against two lacks of 5: 10 each. */
+    private static void harmOfOtherKinds() {
+        WavePlan x = new WavePlan();
+        x.mast(PLAIN, 0, 0, 1);
+        x.mast(PLAIN, 0, 0, 3);
+        x.own(6, -1);
+        x.list(0, only(1));
+        setAll(x, 2, 6, 5, 7);
+        due("the first is one that may not", x.better(1), 1);
+        dueChannels("it goes", x, 1, 6, 5, 7);
+        WavePlan y = new WavePlan();
+        y.mast(PLAIN, 0, 0, 3);
+        y.mast(PLAIN, 0, 0, 1);
+        y.own(6, -1);
+        y.list(1, only(1));
+        setAll(y, 6, 5, 7, 2);
+        due("the first has the lacks", y.better(1), 1);
+        dueChannels("it goes to where no lack is", y, 13, 5, 7, 2);
     }
 
     private static void lessThanHarm() {
