@@ -703,6 +703,11 @@ public final class WavePlan {
             return barOf(mastOf[u], mastOf[v]);
         }
 
+        /** Whether sums reach from one want's mast to the other's; if not, no third want makes a sum with both. */
+        boolean areNear(int u, int v) {
+            return (near[mastOf[u]] >>> mastOf[v] & 1) != 0;
+        }
+
         /** No mast is near itself, so three of which two are the same are not in. */
         boolean areIn(int a, int b, int c) {
             return (near[a] >>> b & near[a] >>> c & near[b] >>> c & 1) != 0;
@@ -865,7 +870,8 @@ public final class WavePlan {
             int found = 0;
             for (int u = 0; u < land.wantCount; u++) {
                 for (int v = u + 1; v < land.wantCount; v++) {
-                    for (int w = v + 1; w < land.wantCount; w++) {
+                    int end = land.areNear(u, v) ? land.wantCount : 0;
+                    for (int w = v + 1; w < end; w++) {
                         found += sumTogether(plan, u, v, w) ? sumsOfThree(plan, u, v, w) : 0;
                     }
                 }
@@ -923,7 +929,8 @@ public final class WavePlan {
                     continue;
                 }
                 taken |= tooNear(plan, u, land.barOfWants(u, w));
-                for (int v = u + 1; v < upTo; v++) {
+                int end = land.areNear(u, w) ? upTo : 0;
+                for (int v = u + 1; v < end; v++) {
                     if (v != w && sumMates(plan, u, v, w)) {
                         taken |= sumTargets(plan, u, v);
                     }
@@ -977,7 +984,8 @@ public final class WavePlan {
                     continue;
                 }
                 addLacks(plan, u, w);
-                for (int v = u + 1; v < land.wantCount; v++) {
+                int end = land.areNear(u, w) ? land.wantCount : 0;
+                for (int v = u + 1; v < end; v++) {
                     if (v != w && sumMates(plan, u, v, w)) {
                         addSums(plan, u, v, land.gapOf(w));
                     }

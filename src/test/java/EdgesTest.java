@@ -1,5 +1,10 @@
+import java.util.HashSet;
+import java.util.Set;
+
 /** The sentences of the promises that name a boundary case; the answers are worked out by hand. */
 public final class EdgesTest extends Offices {
+    private static final Set<String> SAID = new HashSet<>();
+
     public static void main(String[] args) {
         sayMasts();
         sayRules();
@@ -10,10 +15,12 @@ public final class EdgesTest extends Offices {
         sayCrowds();
         sayImages();
         sayShelves();
+        due("promises with a test", SAID.size(), Sentences.promises());
         CHECK.finish();
     }
 
     private static Sentences promise(String title) {
+        SAID.add(title);
         return new Sentences(CHECK, "Promise " + title);
     }
 
@@ -822,6 +829,10 @@ public final class EdgesTest extends Offices {
         x.gap(1, 10);
         setAll(x, 0, 29, -1);
         due("c + D, though it may not be", x.span(), 39);
+        WavePlan all = sixteenWants();
+        all.set(0, 3);
+        all.set(15, 20);
+        due("of all 16 wants", all.span(), 17);
     }
 
     private static void spanOfNone() {

@@ -71,6 +71,10 @@ public final class FaceTest {
         for (Class<?> c : inner) {
             CHECK.isTrue(c + " is static", Modifier.isStatic(c.getModifiers()));
             fieldsOf(c);
+            for (Method m : c.getDeclaredMethods()) {
+                boolean ofTheFace = Arrays.stream(FACE).anyMatch(f -> f.split(" ")[1].equals(m.getName()));
+                CHECK.isTrue(m + " doesn't bear the name of a public one", !ofTheFace);
+            }
         }
         for (Field f : WavePlan.class.getDeclaredFields()) {
             CHECK.isTrue(f + " is private", Modifier.isPrivate(f.getModifiers()));

@@ -19,17 +19,29 @@ final class Sentences {
         this.section = sectionOf(title);
     }
 
-    private static String sectionOf(String title) {
-        if (!Files.exists(DOCUMENT)) {
-            return null;
-        }
+    /** The whole document, or null if it isn't at hand. */
+    private static String document() {
         try {
-            String text = "\n" + Files.readString(DOCUMENT) + "\n## ";
-            int from = text.indexOf("\n## " + title + "\n");
-            return from < 0 ? "" : text.substring(from, text.indexOf("\n## ", from + 1));
+            return Files.exists(DOCUMENT) ? Files.readString(DOCUMENT) : null;
         } catch (IOException e) {
             return "";
         }
+    }
+
+    private static String sectionOf(String title) {
+        String document = document();
+        if (document == null) {
+            return null;
+        }
+        String text = "\n" + document + "\n## ";
+        int from = text.indexOf("\n## " + title + "\n");
+        return from < 0 ? "" : text.substring(from, text.indexOf("\n## ", from + 1));
+    }
+
+    /** How many promises the document has, by its headings; 38 if it isn't at hand. */
+    static int promises() {
+        String document = document();
+        return document == null ? 38 : document.split("\n## Promise \\d+: ", -1).length - 1;
     }
 
     Sentences says(String words, Runnable test) {
