@@ -29,6 +29,7 @@ public final class ModelTest {
         for (int run = 0; run < RUNS; run++) {
             new ModelTest(check, run).go();
         }
+        new ModelTest(check, RUNS).betterBeyondFifty();
         check.finish();
     }
 
@@ -70,6 +71,38 @@ public final class ModelTest {
             due("mast", real.mast(k, p, o, w), model.mast(k, p, o, w), k, p, o, w);
         }
         due("least", real.least(), model.least());
+    }
+
+    /** An office, found by a search, in which BETTER can be done 53 times: the 51st is left for the next call. */
+    private void betterBeyondFifty() {
+        int[][] rows = {{126, 3, 2}, {27, 6, 0}, {70, 3, 3}, {183, 6, 2}};
+        int[][] masts = {
+            {1, 576, 2, 447778931, 8}, {0, 393, 2, 7893974, 10}, {1, 324, 3, 476799806, 2}, {0, 264, 0, 864392191, 7},
+            {0, 389, 3, 666288409, 1}, {1, 579, 3, 399214109, 9}, {0, 7, 1, 115747699, 2}, {1, 321, 3, 2757781, 1},
+            {0, 389, 2, 1063076934, 10}, {0, 577, 2, 223731827, 9}, {1, 451, 0, 878801647, 3}, {1, 8, 2, 787528639, 2}
+        };
+        int[] channels = {13, 5, 28, 13, 6, 19, 16, 21, 17, 13, 13, 28, 20, 21, 18, 4};
+        for (int[] r : rows) {
+            due("row", real.row(r[0], r[1], r[2]), model.row(r[0], r[1], r[2]), r);
+        }
+        due("own", real.own(0, 158), model.own(0, 158), 0, 158);
+        for (int m = 0; m < masts.length; m++) {
+            int[] a = masts[m];
+            int wants = m < 4 ? 2 : 1;
+            due("mast", real.mast(a[0], a[1], a[2], wants), model.mast(a[0], a[1], a[2], wants), a[0], a[1], a[2], wants);
+            due("list", real.list(m, a[3]), model.list(m, a[3]), m, a[3]);
+            due("gap", real.gap(m, a[4]), model.gap(m, a[4]), m, a[4]);
+        }
+        for (int w = 0; w < channels.length; w++) {
+            due("set", real.set(w, channels[w]), model.set(w, channels[w]), w, channels[w]);
+        }
+        due("the model's better(50)", model.better(50), 50);
+        due("better(50)", real.better(50), 50);
+        due("harm behind it", real.harm(), model.harm());
+        due("the model's better(50) again", model.better(50), 3);
+        due("better(50) again", real.better(50), 3);
+        due("harm at last", real.harm(), model.harm());
+        due("no more", real.better(50), 0);
     }
 
     private void due(String call, long got, long want, int... args) {
