@@ -970,7 +970,7 @@ public final class WavePlan {
         }
 
         private static long bitOf(int channel) {
-            return within(channel, 0, CHANNELS - 1) ? 1L << channel : 0;
+            return channel >= 0 && channel < CHANNELS ? 1L << channel : 0;
         }
 
         /** For each channel the HARM that a want would have its share in, the others being as they are. */

@@ -4,6 +4,7 @@ import java.lang.reflect.Method;
 import java.lang.reflect.Modifier;
 import java.nio.file.Files;
 import java.nio.file.Path;
+import java.util.ArrayList;
 import java.util.Arrays;
 import java.util.List;
 import java.util.Set;
@@ -14,6 +15,7 @@ import java.util.regex.Pattern;
 public final class FaceTest {
     private static final Check CHECK = new Check();
     private static final Path SOURCE = Path.of("src", "main", "java", "WavePlan.java");
+    private static final Path DOCUMENT = Path.of("..", "shared", "DOC.md");
     private static final String HEADER = "^( {4}| {8})[\\w\\[\\] ]*\\w\\(.*\\)( throws .*)? \\{$";
     private static final String[] FACE = {
         "int mast 4", "int move 2", "int list 2", "int gap 2", "int stay 2", "int row 3", "int own 2", "int border 4",
@@ -31,6 +33,7 @@ public final class FaceTest {
 
     public static void main(String[] args) throws Exception {
         face();
+        faceOfDocument();
         inside();
         text();
         CHECK.finish();
@@ -62,6 +65,27 @@ public final class FaceTest {
             CHECK.isTrue("no private method is called " + m.getName(),
                     !Modifier.isPrivate(m.getModifiers()) || !names.contains(m.getName()));
         }
+    }
+
+    /** The document's own lines, in its order, parameters by their names. */
+    private static void faceOfDocument() throws Exception {
+        if (!Files.exists(DOCUMENT)) {
+            return;
+        }
+        List<String> told = new ArrayList<>();
+        for (String line : Files.readAllLines(DOCUMENT)) {
+            if (line.startsWith("    public ") && line.endsWith(";")) {
+                told.add(line.substring(0, line.length() - 1));
+            }
+        }
+        List<String> written = new ArrayList<>();
+        for (String line : Files.readAllLines(SOURCE)) {
+            if (line.startsWith("    public ") && line.endsWith(" {")) {
+                written.add(line.substring(0, line.length() - 2));
+            }
+        }
+        CHECK.due("lines of the document's face", told.size(), FACE.length + 1);
+        CHECK.isTrue("the face is the document's, line by line: " + written, told.equals(written));
     }
 
     private static void inside() {
